@@ -433,7 +433,7 @@ public final class NestTables {
     }
 
     private static boolean isEndless(double a) {
-        double greatest = 1.7976931348623157E308;
+        final double greatest = 1.7976931348623157E308;
         return a > greatest || a < -greatest;
     }
 

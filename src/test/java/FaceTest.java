@@ -1,0 +1,102 @@
+import java.io.IOException;
+import java.lang.reflect.Constructor;
+import java.lang.reflect.Field;
+import java.lang.reflect.Method;
+import java.lang.reflect.Modifier;
+import java.nio.file.Files;
+import java.nio.file.Path;
+import java.util.Arrays;
+import java.util.Set;
+import java.util.TreeSet;
+import java.util.regex.Matcher;
+import java.util.regex.Pattern;
+
+/** The class has the document's face and no more, and keeps to what can be seen of the language's rules. */
+public final class FaceTest {
+    private static final String[] METHODS = {
+        "int table(int, int)", "int row(int, int, int)", "int share(int, int, int, int)", "int fall(int, int)",
+        "int put(int, int, int, int)", "int get(int, int, int)", "double real(int, int, int)", "int told(int, int, int)",
+        "int odd(int)", "int copy(int, int, int, int, int, int, int)", "int turned(int)", "int product(int, int)",
+        "int distances(int)", "int pack(int)", "int word(int)", "int alike(int, int)", "int same(int, int, int, int)",
+        "int total(int)", "int entered()", "int deep(int)", "int count(int)", "int clear()"};
+    private static final String[] CONSTANTS = {"NONE=-1000009", "OUTSIDE=-1000002", "ROOM=-1000004", "STATE=-1000003", "UNKNOWN=-1000001"};
+    private static final String[] FORBIDDEN = {"\\btry\\b", "\\bcatch\\b", "\\bfinally\\b", "\\bthrow\\b", "\\bsynchronized\\b",
+        "\\bassert\\b", "->", "::", "\\bNaN\\b", "\\bDouble\\b", "\\bObject\\b", "\\bRandom\\b", "\\bSystem\\.(?!arraycopy)",
+        "\\bArrays\\.(?!copyOf|copyOfRange|fill)", "\\bMath\\.\\w*Exact", "\\bequals\\b", "\\bhashCode\\b", "\\btoString\\b",
+        "\\bstatic\\s*\\{", "\\bgetClass\\b", "\\bpackage\\b", "\\bprotected\\b"};
+
+    private static int wrong = 0;
+
+    public static void main(String[] args) throws IOException, IllegalAccessException {
+        checkMembers();
+        checkPrivateNames(NestTables.class, new TreeSet<>());
+        checkSource(Files.readString(Path.of(System.getProperty("class.source", "src/main/java/NestTables.java"))));
+        System.out.println(wrong == 0 ? "the face is as due" : wrong + " things are not as due");
+        if (wrong != 0) {
+            System.exit(1);
+        }
+    }
+
+    private static void due(String what, Object got, Object want) {
+        if (!got.equals(want)) {
+            wrong++;
+            System.out.println(what + ": " + got + ", due is " + want);
+        }
+    }
+
+    private static void checkMembers() throws IllegalAccessException {
+        Class<?> face = NestTables.class;
+        due("public and final", Modifier.isPublic(face.getModifiers()) && Modifier.isFinal(face.getModifiers()), true);
+        Set<String> methods = new TreeSet<>();
+        for (Method method : face.getDeclaredMethods()) {
+            if (!Modifier.isPrivate(method.getModifiers())) {
+                String parameters = String.join(", ", Arrays.stream(method.getParameterTypes()).map(Class::getName).toList());
+                methods.add(method.getReturnType() + " " + method.getName() + "(" + parameters + ")");
+            }
+        }
+        due("methods", methods, new TreeSet<>(Arrays.asList(METHODS)));
+        Set<String> constants = new TreeSet<>();
+        for (Field field : face.getDeclaredFields()) {
+            due("static fields are final: " + field.getName(), !Modifier.isStatic(field.getModifiers())
+                || Modifier.isFinal(field.getModifiers()), true);
+            if (!Modifier.isPrivate(field.getModifiers())) {
+                constants.add(field.getName() + "=" + field.getInt(null));
+            }
+        }
+        due("constants", constants, new TreeSet<>(Arrays.asList(CONSTANTS)));
+        Constructor<?>[] constructors = face.getDeclaredConstructors();
+        due("one constructor", constructors.length, 1);
+        due("the constructor takes nothing", constructors[0].getParameterCount(), 0);
+    }
+
+    private static void checkPrivateNames(Class<?> face, Set<String> names) {
+        for (String method : METHODS) {
+            names.add(method.substring(method.indexOf(' ') + 1, method.indexOf('(')));
+        }
+        for (Class<?> inside : face.getDeclaredClasses()) {
+            due("static inside: " + inside, Modifier.isStatic(inside.getModifiers()), true);
+            for (Method method : inside.getDeclaredMethods()) {
+                due("the face's name inside: " + method, names.contains(method.getName()), false);
+            }
+        }
+        for (Method method : face.getDeclaredMethods()) {
+            due("parameters of " + method, method.getParameterCount() <= 7, true);
+            if (Modifier.isPrivate(method.getModifiers())) {
+                due("the face's name in private: " + method, names.contains(method.getName()), false);
+            }
+        }
+    }
+
+    private static void checkSource(String source) {
+        String code = source.replaceAll("(?s)/\\*.*?\\*/", "").replaceAll("//[^\n]*", "");
+        for (String pattern : FORBIDDEN) {
+            Matcher matcher = Pattern.compile(pattern).matcher(code);
+            due("found of " + pattern, matcher.find() ? matcher.group() : "nothing", "nothing");
+        }
+        due("only characters 1 to 127", source.chars().allMatch(c -> c >= 1 && c <= 127), true);
+        Matcher imports = Pattern.compile("import ([\\w.*]+);").matcher(code);
+        while (imports.find()) {
+            due("import", imports.group(1), "java.util.Arrays");
+        }
+    }
+}
