@@ -5,7 +5,9 @@ import java.lang.reflect.Method;
 import java.lang.reflect.Modifier;
 import java.nio.file.Files;
 import java.nio.file.Path;
+import java.util.ArrayList;
 import java.util.Arrays;
+import java.util.List;
 import java.util.Set;
 import java.util.TreeSet;
 import java.util.regex.Matcher;
@@ -30,6 +32,7 @@ public final class FaceTest {
     public static void main(String[] args) throws IOException, IllegalAccessException {
         checkMembers();
         checkPrivateNames(NestTables.class, new TreeSet<>());
+        checkSizes(NestTables.class);
         checkSource(Files.readString(Path.of(System.getProperty("class.source", "src/main/java/NestTables.java"))));
         System.out.println(wrong == 0 ? "the face is as due" : wrong + " things are not as due");
         if (wrong != 0) {
@@ -80,14 +83,39 @@ public final class FaceTest {
             }
         }
         for (Method method : face.getDeclaredMethods()) {
-            due("parameters of " + method, method.getParameterCount() <= 7, true);
             if (Modifier.isPrivate(method.getModifiers())) {
                 due("the face's name in private: " + method, names.contains(method.getName()), false);
             }
         }
     }
 
+    /** Rule 11: seven parameters, some twelve classes, some twenty fields beside the constants. */
+    private static void checkSizes(Class<?> face) {
+        List<Class<?>> classes = new ArrayList<>(Arrays.asList(face.getDeclaredClasses()));
+        classes.add(face);
+        due("at most twelve classes", classes.size() <= 12, true);
+        for (Class<?> each : classes) {
+            long fields = Arrays.stream(each.getDeclaredFields()).filter(f -> !Modifier.isStatic(f.getModifiers())).count();
+            due("at most twenty fields in " + each, fields <= 20, true);
+            for (Method method : each.getDeclaredMethods()) {
+                due("at most seven parameters of " + method, method.getParameterCount() <= 7, true);
+            }
+        }
+    }
+
+    /** Rule 11: a method's lines, from one at the methods' indentation that opens a block to the one that closes it. */
+    private static void checkMethodLengths(String source) {
+        Matcher methods = Pattern.compile("(?m)^( {4}| {8})\\S[^\n;]*\\) \\{\n(?s:.*?)^\\1\\}$").matcher(source);
+        int seen = 0;
+        while (methods.find()) {
+            seen++;
+            due("lines of " + methods.group().lines().findFirst().get().trim(), methods.group().lines().count() <= 60, true);
+        }
+        due("methods seen", seen > METHODS.length, true);
+    }
+
     private static void checkSource(String source) {
+        checkMethodLengths(source);
         String code = source.replaceAll("(?s)/\\*.*?\\*/", "").replaceAll("//[^\n]*", "");
         for (String pattern : FORBIDDEN) {
             Matcher matcher = Pattern.compile(pattern).matcher(code);
