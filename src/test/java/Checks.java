@@ -226,6 +226,23 @@ abstract class Checks {
         return power;
     }
 
+    /** The number of a table with the greatest double at place 0, and the least at place 1; takes fifteen tables. */
+    static int greatestAndLeast(NestTables x) {
+        // (2^53 - 1) * 2^971: the first is 6361 * 69431 * (10000 * 2039 + 4401), the other (2^15)^64 * 2^11, each step exact
+        int signs = filled(x, REALS, cells(6361000), cells(-6361000));
+        int factor = filled(x, REALS, cells(69431000));
+        int begun = x.product(signs, factor);
+        int sum = x.product(filled(x, REALS, cells(10000000, 1000)), filled(x, REALS, cells(2039000), cells(4401000)));
+        int allOnes = x.product(begun, sum);
+        x.put(factor, 0, 0, 32768000);
+        int power = factor;
+        for (int k = 0; k < 6; k++) {
+            power = x.product(power, power);
+        }
+        x.put(factor, 0, 0, 2048000);
+        return x.product(allOnes, x.product(power, factor));
+    }
+
     /** The number of a table with one real that is no number; takes nine tables. */
     static int noNumber(NestTables x) {
         return x.product(endless(x), with(x, REALS, 1));

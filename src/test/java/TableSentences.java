@@ -275,6 +275,7 @@ final class TableSentences extends Checks {
         due("all that was made", x.count(0), 11);
         productWithoutEnd();
         productNoNumber();
+        productWithTheGreatest();
     }
 
     private static void productWithoutEnd() {
@@ -321,6 +322,38 @@ final class TableSentences extends Checks {
         int sum = x.product(pair, signs);
         dueReal("without end less 1", x.real(sum, 0, 0), Double.POSITIVE_INFINITY);
         due("all sixteen tables", x.count(0), 16);
+    }
+
+    /** The greatest double and the least are not yet without end: by 0, and added to one another, they stay numbers. */
+    private static void productWithTheGreatest() {
+        NestTables x = new NestTables();
+        int ends = greatestAndLeast(x);
+        dueReal("the greatest", x.real(ends, 0, 0), Double.MAX_VALUE);
+        dueReal("the least", x.real(ends, 1, 0), -Double.MAX_VALUE);
+        due("the greatest, cut", x.get(ends, 0, 0), MOST);
+        due("the least, cut", x.get(ends, 1, 0), LEAST);
+        // only one table is left, so a table that was made on the way holds the 0
+        int zero = 1;
+        x.put(zero, 0, 0, 0);
+        int byZero = x.product(ends, zero);
+        due("the greatest and the least by 0 are numbers", x.alike(byZero, byZero), 1);
+        dueReal("0 by the greatest and by the least", timesTheEnds(0, 0), 0.0);
+        dueReal("the greatest and the least added", timesTheEnds(1000, 1000), 0.0);
+        dueReal("twice the greatest", timesTheEnds(2000, 0), Double.POSITIVE_INFINITY);
+        dueReal("twice the least", timesTheEnds(0, 2000), Double.NEGATIVE_INFINITY);
+    }
+
+    /** So many thousandths of the greatest double and of the least, added; it is due to be a number. */
+    private static double timesTheEnds(int ofTheGreatest, int ofTheLeast) {
+        NestTables x = new NestTables();
+        int ends = greatestAndLeast(x);
+        // the one table on the way with a row of two cells
+        int pair = 3;
+        x.put(pair, 0, 0, ofTheGreatest);
+        x.put(pair, 0, 1, ofTheLeast);
+        int sum = x.product(pair, ends);
+        due("a number", x.alike(sum, sum), 1);
+        return x.real(sum, 0, 0);
     }
 
     private static void productUnknown() {
