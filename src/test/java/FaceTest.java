@@ -30,6 +30,7 @@ public final class FaceTest {
     private static int wrong = 0;
 
     public static void main(String[] args) throws IOException, IllegalAccessException {
+        checkDocument(Path.of(System.getProperty("document", "../shared/DOC.md")));
         checkMembers();
         checkPrivateNames(NestTables.class, new TreeSet<>());
         checkSizes(NestTables.class);
@@ -45,6 +46,30 @@ public final class FaceTest {
             wrong++;
             System.out.println(what + ": " + got + ", due is " + want);
         }
+    }
+
+    /** What this test asks of the class is what the document's face has, no more and no less. */
+    private static void checkDocument(Path path) throws IOException {
+        if (!Files.exists(path)) {
+            System.out.println(path + " is not there: the face is not compared with it");
+            return;
+        }
+        String text = Files.readString(path);
+        int from = text.indexOf("```java\n", text.indexOf("\n## The public face\n"));
+        String face = text.substring(from, text.indexOf("\n```\n", from));
+        Set<String> methods = new TreeSet<>();
+        Matcher lines = Pattern.compile("(?m)^    public (int|double) (\\w+)\\((.*)\\);$").matcher(face);
+        while (lines.find()) {
+            methods.add(lines.group(1) + " " + lines.group(2) + "(" + lines.group(3).replaceAll("int \\w+", "int") + ")");
+        }
+        due("the document's methods", methods, new TreeSet<>(Arrays.asList(METHODS)));
+        Set<String> constants = new TreeSet<>();
+        Matcher numbers = Pattern.compile("(\\w+) = (-?\\d+)").matcher(face);
+        while (numbers.find()) {
+            constants.add(numbers.group(1) + "=" + numbers.group(2));
+        }
+        due("the document's constants", constants, new TreeSet<>(Arrays.asList(CONSTANTS)));
+        due("the document's public lines", face.lines().filter(line -> line.contains("public ")).count(), METHODS.length + 3L);
     }
 
     private static void checkMembers() throws IllegalAccessException {
